@@ -472,9 +472,9 @@ public final class DuneMaps {
         }
 
         int shapeAt(int cell) {
-            int here = heightAt(cell);
-            int behind = heightAt(cell - 1);
-            int ahead = heightAt(cell + 1);
+            int here = heights[cell & RING];
+            int behind = heights[(cell - 1) & RING];
+            int ahead = heights[(cell + 1) & RING];
             if (here > behind && here > ahead) {
                 return CREST;
             }

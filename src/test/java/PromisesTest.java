@@ -461,6 +461,15 @@ public final class PromisesTest {
         CHECK.heights("15 as it would be", x, "0 0 0 9 0 0 0 0");
         due("15 maps stay", x.count(3), 2);
         due("15 nobody went", x.count(6), 0);
+        x.night();
+        due("15 none holds any more", x.order(0), 0);
+        due("15 none holds: by numbers", x.order(10), 0);
+        x = with("00090000>", WALKER, 1);
+        x.walker(WALKER, 2);
+        x.map(0, ON, 1);
+        x.map(1, ON, 1);
+        due("15 he goes no farther than his map", x.order(0), 2);
+        due("15 so he may go first", x.order(10), 0);
         x = with("00090000>", WALKER, 2);
         x.walker(WALKER, 4);
         x.walker(WALKER, 2);
@@ -613,6 +622,24 @@ public final class PromisesTest {
         x.was();
         // From 0 back, the eighth STEP: the HEIGHT of 7 is 0 until then.
         due("18 kind, cell, way, steps", x.who(1), 4 * 128 + 7);
+        x = with("00000000>");
+        Check.write(x, "10000000");
+        x.was();
+        due("18 nobody takes sand away", x.who(0), 0);
+        onlyWalk(6, ON, "0 5 2 4 1 2 3 8");
+        onlyWalk(3, BACK, "0 5 0 2 5 6 3 4");
+    }
+
+    /** A CARAVAN's 8 STEPS over the HILLS, which no other walk is like. */
+    private static void onlyWalk(int from, int way, String after) {
+        DuneMaps x = with(HILLS, CARAVAN, from);
+        x.map(0, way, 8);
+        x.go(0);
+        CHECK.heights("18 eight steps from " + from, x, after);
+        Check.write(x, "41605270");
+        x.was();
+        due("18 only one", x.who(0), 1);
+        due("18 that one", x.who(1), 4 * 128 + 16 * from + 8 * way + 7);
     }
 
     private static void promise19() {
@@ -621,6 +648,12 @@ public final class PromisesTest {
         due("19 seed of the greatest", x.moons(1, MOST, 2), 288979989);
         due("19 nothing moves on level sand", x.moons(60, 7, 0), 0);
         due("19 highest of level sand", x.moons(60, 7, 1), 5);
+        due("19 highest of no sand", with("00000000>").moons(60, 7, 1), 0);
+        // Seed 1 draws CELL 6, where nothing moves; seed 0 draws CELL 0 and a GUIDE.
+        due("19 the night alone", with("90000000>").moons(1, 1, 1), 8);
+        due("19 no foot", with("90000000>").moons(1, 1, 0), 0);
+        due("19 a guide and the night", with("90000000>").moons(1, 0, 1), 7);
+        due("19 a foot", with("90000000>").moons(1, 0, 0), 1);
         x = with("00090000>");
         long before = x.digest();
         int moved = 0;
@@ -668,6 +701,7 @@ public final class PromisesTest {
         x.wind(false);
         x.step(0, BACK);
         x.go(0);
+        x.map(0, BACK, 5);
         x.map(1, BACK, 7);
         x.walker(GUIDE, 0);
         x.walker(BRIDE, 0);
@@ -731,6 +765,14 @@ public final class PromisesTest {
             due("22 what " + what, x.count(what), OUTSIDE);
         }
         due("22 OUTSIDE without DUNES", new DuneMaps().count(11), OUTSIDE);
+        x = with("55555555>", WALKER, 0);
+        x.map(0, ON, 2);
+        x.step(0, ON);
+        due("22 steps of the first", x.count(6), 1);
+        due("22 a good map", x.count(4), 1);
+        Check.write(x, "55555555>");
+        x.dunes();
+        due("22 gone with him", x.count(4), 0);
     }
 
     private static long folded(int... numbers) {
