@@ -1,3 +1,5 @@
+import java.util.Arrays;
+
 /** Counts the answers that are not as due, and writes texts on THE PAGE. */
 final class Check {
     private static final int MOST_PRINTED = 40;
@@ -21,9 +23,12 @@ final class Check {
 
     /** All eight HEIGHTS, as a text with a blank between two of them. */
     void heights(String what, DuneMaps x, String want) {
-        String[] numbers = want.split(" ");
+        heights(what, x, Arrays.stream(want.split(" ")).mapToInt(Integer::parseInt).toArray());
+    }
+
+    void heights(String what, DuneMaps x, int[] want) {
         for (int cell = 0; cell < 8; cell++) {
-            due(what + ", cell(" + cell + ", 0)", x.cell(cell, 0), Integer.parseInt(numbers[cell]));
+            due(what + ", cell(" + cell + ", 0)", x.cell(cell, 0), want[cell]);
         }
     }
 
@@ -42,6 +47,23 @@ final class Check {
         for (int i = 0; i < text.length(); i++) {
             x.letter(text.charAt(i));
         }
+    }
+
+    /** HEIGHTS of one digit each, as a text. */
+    static String digits(int[] heights) {
+        StringBuilder text = new StringBuilder();
+        for (int height : heights) {
+            text.append(height);
+        }
+        return text.toString();
+    }
+
+    static int[] heightsOf(DuneMaps x) {
+        int[] heights = new int[8];
+        for (int cell = 0; cell < 8; cell++) {
+            heights[cell] = x.cell(cell, 0);
+        }
+        return heights;
     }
 
     static DuneMaps with(String dunes) {
