@@ -72,4 +72,10 @@ final class Check {
         x.dunes();
         return x;
     }
+
+    static DuneMaps with(String dunes, int kind, int cell) {
+        DuneMaps x = with(dunes);
+        x.walker(kind, cell);
+        return x;
+    }
 }

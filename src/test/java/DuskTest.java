@@ -41,6 +41,8 @@ public final class DuskTest {
         otherDunesTakeAllAway();
         refusedDunesTakeNothingAway();
         withoutDunesNothingIsCounted();
+        digestOfNoneToFourWalkers();
+        drawsAreRests();
         fiveHundredAndTwelveCalls();
         CHECK.end("DuskTest");
     }
@@ -50,9 +52,7 @@ public final class DuskTest {
     }
 
     private static DuneMaps with(String dunes, int kind, int cell) {
-        DuneMaps x = Check.with(dunes);
-        x.walker(kind, cell);
-        return x;
+        return Check.with(dunes, kind, cell);
     }
 
     private static void tell(DuneMaps x, String heights) {
@@ -219,21 +219,21 @@ public final class DuskTest {
         }
     }
 
-    /** Behind restore() there is room again, and who comes has nothing of whom was gone. */
+    /** Where others are gone there is room again, and who comes has nothing of theirs. */
     private static void comesAnew(DuneMaps x, int number) {
         if (number == 4) {
-            due("21 there is no room", x.walker(CARAVAN, 7), FULL);
+            due("anew, there is no room", x.walker(CARAVAN, 7), FULL);
             return;
         }
-        due("21 his number", x.walker(CARAVAN, 7), number);
+        due("anew, his number", x.walker(CARAVAN, 7), number);
         int[] told = {CARAVAN, 7, 4, 0, 0, 0, NONE, NONE};
         for (int what = 0; what <= 7; what++) {
-            due("21 about him, " + what, x.about(number, what), told[what]);
+            due("anew, about him, " + what, x.about(number, what), told[what]);
         }
         for (int more = number + 1; more < 4; more++) {
-            due("21 one more", x.walker(BRIDE, 0), more);
+            due("anew, one more", x.walker(BRIDE, 0), more);
         }
-        due("21 then it is full", x.walker(BRIDE, 0), FULL);
+        due("anew, then it is full", x.walker(BRIDE, 0), FULL);
     }
 
     private static void imageKeepsWhereTheyAre() {
@@ -386,6 +386,7 @@ public final class DuskTest {
         due("5 no HEIGHTS that were", x.who(0), STATE);
         due("5 no IMAGE", x.restore(), STATE);
         due("20 no NIGHTS", x.image(), 0);
+        comesAnew(x, 0);
     }
 
     private static void refusedDunesTakeNothingAway() {
@@ -418,6 +419,73 @@ public final class DuskTest {
             h = 31 * h + (what == 8 ? 12 : 0);
         }
         due("23 a full PAGE alone, wrapping", x.digest(), h);
+    }
+
+    private static long folded(long h, long number) {
+        return 31 * h + number;
+    }
+
+    /** The digest as the document tells it, of what the other calls answer. */
+    private static long folded(DuneMaps x, boolean hasDunes, int walkers, String page) {
+        long h = 881;
+        for (int all = 0; hasDunes && all < 24; all++) {
+            h = folded(h, x.cell(all / 3, all % 3));
+        }
+        for (int what : hasDunes ? new int[] {0, 10, 11, 12, 13} : new int[0]) {
+            h = folded(h, x.order(what));
+        }
+        for (int all = 0; all < walkers * 8; all++) {
+            h = folded(h, x.about(all / 8, all % 8));
+        }
+        for (int what = 0; x.count(10) == 1 && what <= 1; what++) {
+            h = folded(h, x.who(what));
+        }
+        for (char letter : page.toCharArray()) {
+            h = folded(h, letter);
+        }
+        for (int what = 0; what <= 10; what++) {
+            h = folded(h, x.count(what));
+        }
+        return h;
+    }
+
+    private static void digestOfNoneToFourWalkers() {
+        due("23 no DUNES", new DuneMaps().digest(), folded(new DuneMaps(), false, 0, ""));
+        DuneMaps x = Check.with(HILLS);
+        for (int n = 0; n <= 4; n++) {
+            due("23 of " + n, x.digest(), folded(x, true, n, ""));
+            x.walker(4 - n, 2 * n);
+            x.step(n, BACK);
+            x.map(n, n & 1, n + 4);
+        }
+        due("23 of four with MAPS", x.digest(), folded(x, true, 4, ""));
+        tell(x, "41605270");
+        due("23 HEIGHTS that were", x.digest(), folded(x, true, 4, ""));
+        Check.write(x, "41605270>123");
+        due("23 a full PAGE", x.digest(), folded(x, true, 4, "41605270>123"));
+        due("23 it changes nothing", x.digest(), folded(x, true, 4, "41605270>123"));
+    }
+
+    /** On a lone CREST of 9 the first foot shows which CELL and which KIND were drawn. */
+    private static void drawsAreRests() {
+        int[] weights = {1, 2, 0, 1, 4};
+        boolean[] drawn = new boolean[40];
+        for (int seed = 0; seed < 400; seed++) {
+            int cell = (int) (seedBehind(seed, 1) / 65536 % 8);
+            int kind = (int) (seedBehind(seed, 2) / 65536 % 5);
+            int[] heights = new int[8];
+            heights[cell] = 9;
+            DuneMaps x = Check.with(Check.digits(heights) + ">");
+            String what = "seed " + seed + ", cell " + cell + ", kind " + kind;
+            due("19 a foot, " + what, x.moons(1, seed, 0), kind == BRIDE ? 0 : 1);
+            // In the NIGHT the CREST gives 1 more: a CARAVAN leaves 5 and 4, which become 4 and 5.
+            due("19 the highest, " + what, x.moons(1, seed, 1),
+                Math.max(9 - weights[kind] - 1, 1 + (kind == GUIDE ? 0 : weights[kind])));
+            drawn[cell * 5 + kind] = true;
+        }
+        for (int all = 0; all < 40; all++) {
+            CHECK.so("19 every CELL with every KIND was drawn", drawn[all]);
+        }
     }
 
     /** Counted are the calls behind the constructor, the nine letters and dunes() among them. */

@@ -164,7 +164,7 @@ public final class RulesTest {
         threads.getThreadAllocatedBytes(self);
         DuneMaps x = Check.with("41605270>");
         long before = threads.getThreadAllocatedBytes(self);
-        for (int i = 0; i < 20; i++) {
+        for (int i = 0; i < 15; i++) {
             dearCalls(x);
         }
         long made = threads.getThreadAllocatedBytes(self) - before;

@@ -15,6 +15,7 @@ public final class WalksTest {
 
     public static void main(String[] args) {
         everyKindOnEveryCell();
+        onlyACaravanIsACamelToo();
         fourAreTheMost();
         fourOnOneCell();
         numbersThatNameNobody();
@@ -40,9 +41,7 @@ public final class WalksTest {
     }
 
     private static DuneMaps with(String dunes, int kind, int cell) {
-        DuneMaps x = Check.with(dunes);
-        x.walker(kind, cell);
-        return x;
+        return Check.with(dunes, kind, cell);
     }
 
     private static void everyKindOnEveryCell() {
@@ -63,6 +62,18 @@ public final class WalksTest {
         due("9 CELL too small", Check.with(HILLS).walker(0, -1), UNKNOWN);
         due("9 CELL too large", Check.with(HILLS).walker(0, 8), UNKNOWN);
         due("9 no DUNES, no CELLS", new DuneMaps().walker(0, 0), UNKNOWN);
+    }
+
+    private static void onlyACaravanIsACamelToo() {
+        for (int kind = 0; kind <= 4; kind++) {
+            DuneMaps x = with(HILLS, kind, 0);
+            for (int as = 1; as <= 4; as++) {
+                boolean such = as == kind || as == CAMEL && kind == CARAVAN;
+                due("11 KIND " + kind + " as " + as, x.as(0, as), such ? 0 : NONE);
+            }
+            due("11 KIND too small", x.as(0, -1), OUTSIDE);
+            due("11 KIND too large", x.as(0, 5), OUTSIDE);
+        }
     }
 
     private static void fourAreTheMost() {
